@@ -200,7 +200,11 @@ public final class LadderOfRescued {
         if (now.rungOf(p) != NONE) {
             return STATE;
         }
-        return burn(now, p, window) ? 1 : 0;
+        if (!serves(now, now.order, now.saved, window)) {
+            return 0;
+        }
+        now.saveByFire(p);
+        return 1;
     }
 
     public int door(int p) {
@@ -336,10 +340,14 @@ public final class LadderOfRescued {
         }
         trial.becomeLike(now);
         int p = 0;
-        // Each fire that saves somebody starts the count again, so at most 8 times 8 fires.
-        for (int fires = 0; fires < MOST_PEOPLE * MOST_PEOPLE && p < trial.people; fires++) {
-            boolean savedNow = trial.rungOf(p) == NONE && burn(trial, p, window);
-            p = savedNow ? 0 : p + 1;
+        // At most 8 are saved, and each starts the count again: 8 times 9 steps and no more.
+        for (int fires = 0; fires < MOST_PEOPLE * (MOST_PEOPLE + 1) && p < trial.people; fires++) {
+            if (trial.rungOf(p) == NONE && serves(trial, trial.order, trial.saved, window)) {
+                trial.saveByFire(p);
+                p = 0;
+            } else {
+                p++;
+            }
         }
         return trial.savedBits();
     }
@@ -722,15 +730,6 @@ public final class LadderOfRescued {
         return highOf(crew, who, n) >= window && holds(crew, who, n);
     }
 
-    private boolean burn(Crew crew, int p, int window) {
-        if (!serves(crew, crew.order, crew.saved, window)) {
-            return false;
-        }
-        crew.save(p);
-        crew.rust = 0;
-        return true;
-    }
-
     /** The sheet's people into the row: how many; NONE: they are no ladder. */
     private int takeRow(Sheet sheet) {
         if (sheet.size > MOST_PEOPLE) {
@@ -840,7 +839,7 @@ public final class LadderOfRescued {
     private static long lowest(long above, long below, int part) {
         long common = below;
         long rest = above;
-        // Each two rounds halve what is left, so 200 are far more than a long can need.
+        // Two rounds halve what is left at least: 200 are more than a long can need.
         for (int i = 0; i < 200 && rest != 0; i++) {
             long left = common % rest;
             common = rest;
@@ -912,6 +911,11 @@ public final class LadderOfRescued {
                 order[saved] = p;
                 saved++;
             }
+        }
+
+        private void saveByFire(int p) {
+            save(p);
+            rust = 0;
         }
     }
 

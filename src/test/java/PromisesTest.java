@@ -155,6 +155,12 @@ public final class PromisesTest {
     fault("tall 1;comes 1;", 7);
     fault("tal 1;", 0);
     fault("tallx 1;", 0);
+    fault("tallz 1;", 0);
+    fault("ztall 1;", 0);
+    fault("tall{1;", 4);
+    fault("tall`1;", 4);
+    fault("tall/1;", 4);
+    fault("tall:1;", 4);
     fault("Tall 1;", 0);
     fault("\ttall 1;", 0);
     inTall("1234", -1);
@@ -254,9 +260,19 @@ public final class PromisesTest {
     x.door(1);
     x.winters(30);
     law(x, e, e, e);
+    due("a text of " + e, x.count(4), 1);
     due("tall " + e, x.asks(0, 0, 3), Math.max(0, Math.min(99, want)));
     due("bears " + e, x.asks(1, 0, 3), Math.max(0, Math.min(999, want)));
     due("comes " + e, x.asks(2, 0, 3), Math.max(0, Math.min(100, want)));
+  }
+
+  /** What an E is that is too long to stand thrice in a text. */
+  private static void once(String e, int want) {
+    LadderOfRescued x = new LadderOfRescued();
+    who(x, 0, 4, 50, 600);
+    law(x, "1", e, "1");
+    due("a text of " + e, x.count(4), 1);
+    due("bears " + e, x.asks(1, 0, 3), want);
   }
 
   private static void asks() {
@@ -277,6 +293,13 @@ public final class PromisesTest {
     value("0 - 9999 * 9999 * 9999", -(9999 * 9999 * 9999));
     value("9999 * 9999 * 22 < 0", 1);
     value("(2 < 3) * 5 + (3 < 2) * 7", 5);
+    value("1+1+1+1+1+1+1+1+1-1+1", 9);
+    value("2*1*1*1*1*1*1*1*1*1*3", 6);
+    value("0 or 0 or 0 or 0 or 0 or 0 or 0 or 0 or 0 or 2", 1);
+    once("1 and 1 and 1 and 1 and 1 and 1 and 1 and 1 and 1 and 0", 0);
+    // as many wait for another as can
+    once("0or 1and 0<1+1*(0or 1and 0<1+1*(0or 1and 0<1+1*(0or 1and 0<1+1*(0or 1and 0<1+1*(0or 1and 0<1+2*3)))))", 1);
+    once("1+2*(1+2*(1+2*(1+2*(1+2*(1+2*1)))))", 127);
     LadderOfRescued x = new LadderOfRescued();
     due("nobody", x.asks(0, 0, 0), -2);
     who(x, 4, 9, 80, 700);
@@ -1054,6 +1077,23 @@ public final class PromisesTest {
     due("another comes", who(x, 2, 7, 40, 41), 3);
     due("no feud", x.told(3, 4), 0); due("not saved", x.told(3, 5), -1); due("kind", x.told(3, 2), 2);
     due("no feud of 0 with that one", x.told(0, 4), 2);
+    // of eight, the eighth too
+    LadderOfRescued y = new LadderOfRescued();
+    for (int p = 0; p < 8; p++) { y.person(59 - p, 1000 * p + p + 20); y.door(p); }
+    y.feud(7, 6, 1);
+    y.image();
+    y.put(7, 0, 1); y.put(7, 1, 2); y.feud(7, 6, 0);
+    due("eight", y.back(), 8);
+    due("height", y.told(7, 0), 7); due("strong", y.told(7, 1), 27); due("kind", y.told(7, 2), 5); due("more", y.told(7, 3), 2);
+    due("feuds", y.told(7, 4), 64); due("order", y.told(7, 5), 7);
+    due("film", y.film(0), 8); due("as it is", y.judge(0), -1);
+    due("kind 5 more 2", y.kinds(0, 7, 1), 1023);
+    // what is asked on a trial is of the eighth too
+    numbers(y, 1, 0, 1, 2, 3, 4, 5, 6, 7);
+    due("stand", y.stand(1, 0), y.ladder(0));
+    due("heights", y.heights(0, 7, 1), 7);
+    y.winters(3); y.film(0);
+    due("more: awake", y.kinds(0, 7, 1), 1 | 2 | 4);
   }
 
   private static void sheet() {
@@ -1133,6 +1173,9 @@ public final class PromisesTest {
     due("three", x.copy(0, 1, 1, 0, 3), 3);
     due("4 3 2", x.stand(1, 0), 16 + 8 + 4);
     due("3 2 weigh", x.stand(1, 2), 4 + 2);
+    numbers(x, 3, 6, 5);
+    due("of sheet 3", x.copy(3, 0, 1, 0, 2), 2); due("6 5 2", x.stand(1, 0), 64 + 32 + 4);
+    due("to sheet 3", x.copy(0, 0, 3, 0, 2), 2); due("5 4", x.stand(3, 0), 32 + 16);
     // onto itself, both ways, as they were
     numbers(x, 0, 0, 1, 2, 3, 7);
     due("up", x.copy(0, 0, 0, 1, 4), 4);
@@ -1174,6 +1217,10 @@ public final class PromisesTest {
     LadderOfRescued y = new LadderOfRescued();
     y.sheet(0, 0, 16);
     due("bytes, eight", y.peopleBy(0, 0, 0, 8), 8);
+    due("people", y.count(0), 8);
+    LadderOfRescued w3 = new LadderOfRescued();
+    w3.sheet(3, 2, 2);
+    due("sheet 3", w3.peopleBy(3, 2, 0, 1), 1);
     LadderOfRescued z = new LadderOfRescued();
     z.sheet(0, 1, 2); z.cell(0, 1, 40000);
     due("a short of 40000 is below 0", z.peopleBy(0, 1, 0, 1), 0);
@@ -1198,6 +1245,9 @@ public final class PromisesTest {
     }
     due("nobody", x.taken(6, 6), -11); due("nobody", x.taken(7, 0), -11);
     due("nobody", x.taken(14, 0), -11); due("nobody", x.taken(15, 6), -11);
+    who(x, 1, 0, 1, 1); who(x, 2, 0, 1, 1);
+    x.door(7);
+    due("the eighth", x.taken(7, 2), 7); due("the eighth is saved", x.taken(15, 6), 1); due("the first is not", x.taken(8, 6), 0);
     due("16", x.taken(16, 0), -12); due("-1", x.taken(-1, 0), -12);
     due("kind 7", x.taken(16, 7), -2);
     for (int w : WILD) { due("kind " + w, x.taken(w, w), -2); due("i " + w, x.taken(w, 0), -12); }
