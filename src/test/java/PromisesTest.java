@@ -157,6 +157,8 @@ public final class PromisesTest {
     fault("tallx 1;", 0);
     fault("tallz 1;", 0);
     fault("ztall 1;", 0);
+    fault("zall 1;", 0);
+    inTall("zeight", 0);
     fault("tall{1;", 4);
     fault("tall`1;", 4);
     fault("tall/1;", 4);
@@ -228,6 +230,12 @@ public final class PromisesTest {
     while (long160.length() < 160 - 1 - REST.length()) long160.append("1+");
     due("bytes of a long text", long160.length() + 1 + REST.length(), 160);
     fault(long160 + "1" + REST, -1);
+    // what stood on the tape before is not there any more
+    LadderOfRescued z = new LadderOfRescued();
+    due("a long number", read(z, "tall 12345;"), -105);
+    due("a short one, then the end", read(z, "tall 1234"), -109);
+    due("a long word", read(z, "tallness"), -100);
+    due("a short one, then the end", read(z, "tall"), -104);
     // a fault changes neither the texts nor the law
     LadderOfRescued y = new LadderOfRescued();
     law(y, "7", "8", "9"); read(y, "tall 1;bears 2;comes 3");
