@@ -5,6 +5,7 @@ import java.util.Random;
 // Random runs of calls, each compared with a plain model that tries everything out.
 public final class ModelTest {
   private static final long NO = LadderOfRescued.NO;
+  private static final int CALLS = 512;
 
   private static final class Fault extends RuntimeException {
     final int place;
@@ -540,7 +541,13 @@ public final class ModelTest {
       case 3: case 4: {
         if (random.nextInt(4) > 0) { same("text", x.text(), m.text()); }
         String t = someText();
-        for (int i = 0; i < t.length(); i++) same("feed " + t.charAt(i), x.feed(1, t.charAt(i), 0, 0, 0, 0), m.feed(1, t.charAt(i), 0, 0, 0, 0));
+        t = t.substring(0, Math.min(t.length(), 190));
+        for (int i = 0; i < t.length(); i += 5) {
+          int[] five = new int[5];
+          int n = Math.min(5, t.length() - i);
+          for (int k = 0; k < n; k++) five[k] = t.charAt(i + k);
+          same("feed " + t.substring(i, i + n), x.feed(n, five[0], five[1], five[2], five[3], five[4]), m.feed(n, five));
+        }
         same("text " + t, x.text(), m.text());
         break; }
       case 5: { int t = wild(0, 5); same("force " + t, x.force(t), m.force(t)); break; }
@@ -618,7 +625,7 @@ public final class ModelTest {
   }
 
   public static void main(String[] args) {
-    int runs = args.length > 0 ? Integer.parseInt(args[0]) : 300;
+    int runs = args.length > 0 ? Integer.parseInt(args[0]) : 1000;
     for (int seed = 0; seed < runs && wrong == 0; seed++) {
       random = new Random(seed);
       log.clear();
@@ -634,10 +641,13 @@ public final class ModelTest {
         int p = random.nextInt(8);
         same("door " + p, x.door(p), m.door(p));
       }
-      for (int i = 0; i < 200; i++) {
+      // An object is used for 512 calls at most: nothing below needs more than 63, three times.
+      for (int i = 1; log.size() < CALLS - 3 * 63; i++) {
         call(x, m);
-        if (i % 20 == 19) state(x, m);
+        if (i % 40 == 0) state(x, m);
       }
+      state(x, m);
+      if (log.size() > CALLS) { wrong++; System.out.println("a run of " + log.size() + " calls"); }
     }
     System.out.println(wrong == 0 ? "class and model agree in " + runs + " runs" : "class and model differ");
     if (wrong != 0) System.exit(1);
