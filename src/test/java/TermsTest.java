@@ -9,6 +9,7 @@ public final class TermsTest {
     tape(); texts(); bytes(); words(); digits(); cuts(); brackets(); grammar();
     values(); wraps(); names();
     ladders(); fires(); lots(); images(); sheets();
+    calls();
     Due.end("TermsTest");
   }
 
@@ -666,5 +667,25 @@ public final class TermsTest {
         Due.is("41", x.sheet(s, sort, 41), -2); Due.is("still of none", x.cell(s, 0, 1), -12);
       }
     }
+  }
+
+  private static void calls() {
+    Due.of("what it is", "An object is used for at most 512 calls after it has been made: the last of them is as the first");
+    LadderOfRescued x = Due.anew();
+    for (int i = 0; i < 511; i++) Due.is("call " + (i + 1), x.winters(i + 1), i);
+    Due.is("call 512", x.count(2), 511);
+    LadderOfRescued y = Due.anew();
+    for (int i = 0; i < 170; i++) {
+      Due.is("image", y.image(), 0);
+      Due.is("one comes", y.person(0, 0), 0);
+      Due.is("back", y.back(), 0);
+    }
+    Due.is("call 511", y.image(), 0); Due.is("call 512", y.person(0, 0), 0);
+    LadderOfRescued z = Due.anew();
+    for (int i = 0; i < 102; i++) {
+      Due.is("fed", z.feed(5, 't', 'a', 'l', 'l', ' '), 5); Due.is("fed", z.feed(1, '1', 0, 0, 0, 0), 6);
+      Due.is("a fault", z.text(), -106); Due.is("texts", z.count(3), 1); Due.is("tape", z.count(5), 0);
+    }
+    Due.is("call 511", z.sheet(0, 2, 40), 1); Due.is("call 512", z.cell(0, 39, 1), 1);
   }
 }
