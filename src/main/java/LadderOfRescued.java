@@ -947,6 +947,8 @@ public final class LadderOfRescued {
 
     /** Looks through the ladders of some people, by what each does at each rung. */
     private static final class Search {
+        // More than all together can weigh.
+        private static final int GROUND_BEARS = 1000000;
         private final int[] rises = new int[MOST_PEOPLE * MOST_SEARCHED];
         private final int[] bears = new int[MOST_PEOPLE * MOST_SEARCHED];
         private final int[] weighs = new int[MOST_PEOPLE];
@@ -961,28 +963,30 @@ public final class LadderOfRescued {
             allowed = people;
             bestHigh = 0;
             bestDigits = NONE;
-            climb(0, 0, NONE, 0, 0, Integer.MAX_VALUE);
+            climb(this, 0, 0, 0, 0, GROUND_BEARS);
         }
 
         /** A ladder that doesn't hold never does with more on top: nothing goes on from it. */
-        private void climb(int rung, int used, int below, int high, int digits, int spare) {
-            if (rung >= limit) {
+        private static void climb(Search s, int rung, int used, int high, int digits, int spare) {
+            if (rung >= s.limit) {
                 return;
             }
-            int free = allowed & ~used;
+            // The last digit tells who is right below; of no digits it is NONE.
+            int below = digits % 10 - 1;
+            int free = s.allowed & ~used;
             for (int p = 0; p < MOST_PEOPLE; p++) {
-                boolean feud = below != NONE && (feuds[p] >> below & 1) != 0;
-                if ((free >> p & 1) == 0 || feud || spare < weighs[p]) {
+                boolean feud = below != NONE && (s.feuds[p] >> below & 1) != 0;
+                if ((free >> p & 1) == 0 || feud || spare < s.weighs[p]) {
                     continue;
                 }
                 int place = p * MOST_SEARCHED + rung;
-                int higher = high + rises[place];
+                int higher = high + s.rises[place];
                 int spelled = digits * 10 + p + 1;
-                if (higher > bestHigh) {
-                    bestHigh = higher;
-                    bestDigits = spelled;
+                if (higher > s.bestHigh) {
+                    s.bestHigh = higher;
+                    s.bestDigits = spelled;
                 }
-                climb(rung + 1, used | 1 << p, p, higher, spelled, Math.min(spare - weighs[p], bears[place]));
+                climb(s, rung + 1, used | 1 << p, higher, spelled, Math.min(spare - s.weighs[p], s.bears[place]));
             }
         }
     }
@@ -1159,13 +1163,21 @@ public final class LadderOfRescued {
 
         private void perhapsNot(int open) {
             if (token == Token.NOT) {
-                if (mayOpen(open)) {
-                    advance();
-                    perhapsNot(open + 1);
-                    law.append(-Token.NOT);
-                }
-                return;
+                negation(open);
+            } else {
+                comparison(open);
             }
+        }
+
+        private void negation(int open) {
+            if (mayOpen(open)) {
+                advance();
+                perhapsNot(open + 1);
+                law.append(-Token.NOT);
+            }
+        }
+
+        private void comparison(int open) {
             sum(open);
             if (token == Token.LESS || token == Token.EQUAL) {
                 int how = token;
@@ -1201,16 +1213,28 @@ public final class LadderOfRescued {
             } else if (Token.isName(token)) {
                 law.append(-token);
                 advance();
-            } else if (token == Token.MINUS && mayOpen(open)) {
+            } else if (token == Token.MINUS) {
+                opposite(open);
+            } else if (token == Token.OPEN) {
+                bracket(open);
+            } else {
+                fail();
+            }
+        }
+
+        private void opposite(int open) {
+            if (mayOpen(open)) {
                 advance();
                 one(open + 1);
                 law.append(-Token.NEGATE);
-            } else if (token == Token.OPEN && mayOpen(open)) {
+            }
+        }
+
+        private void bracket(int open) {
+            if (mayOpen(open)) {
                 advance();
                 either(open + 1);
                 expect(Token.CLOSE);
-            } else {
-                fail();
             }
         }
 

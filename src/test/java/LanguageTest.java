@@ -93,17 +93,36 @@ public final class LanguageTest {
     List<String> never = List.of("\\bthrows?\\b", "\\btry\\b", "\\bcatch\\b", "\\bfinally\\b", "\\bsynchronized\\b", "\\bassert\\b",
         "->", "::", "\\bvar\\b", "\\bpackage\\b", "\\bObject\\b", "\\bThread\\b", "\\bRandom\\b", "Exact\\b", "\\bnative\\b",
         "\\bSystem\\.(?!arraycopy\\b)", "\\bArrays\\.(?!(copyOf|copyOfRange|fill)\\b)", "\\bimport\\s+(?!java\\.util\\.(Arrays|ArrayList|List|Iterator);)",
-        "\"\"\\s*\\+", "\\+\\s*\"\"", "@", "\\bstatic\\s*\\{", "\\bprotected\\b", "\\bString\\.");
+        "\"\"\\s*\\+", "\\+\\s*\"\"", "@", "\\bstatic\\s*\\{", "\\bprotected\\b", "\\bString\\.",
+        "\\b(Integer|Long|Math)\\.(?!(compare|max|min|abs|bitCount|floorDiv|floorMod)\\()");
     for (String bad : never) {
       Matcher m = Pattern.compile(bad).matcher(code);
       if (m.find()) due("source has " + bad, code.substring(m.start(), Math.min(code.length(), m.start() + 40)), "");
     }
+    recursion(code.split("\n"));
     for (int i = 0; i < s.length(); i++) if (s.charAt(i) > 126) due("sign at " + i, (int) s.charAt(i), 0);
     int from = 0;
     String[] lines = s.split("\n");
     for (int i = 0; i < lines.length; i++) {
       if (lines[i].matches(" {4,8}(public|private).*\\) \\{")) from = i;
       if (lines[i].matches(" {4,8}\\}")) due("line " + (from + 1) + ": a method of " + (i - from) + " lines", lines[from].contains("class") || i - from <= 60, true);
+    }
+  }
+
+  /** A method that calls itself is private and static; others call one another. */
+  private static void recursion(String[] lines) {
+    Pattern head = Pattern.compile(" {4,8}(public|private) (static )?[\\w\\[\\]]+ (\\w+)\\(.*\\) \\{");
+    String name = null;
+    boolean free = false;
+    for (String line : lines) {
+      Matcher m = head.matcher(line);
+      if (m.matches()) {
+        name = m.group(3);
+        free = m.group(1).equals("private") && m.group(2) != null;
+      } else if (name != null && Pattern.compile("(?<![.\\w])" + name + "\\(").matcher(line).find()) {
+        due(name + " calls itself and is private and static", free, true);
+      }
+      if (line.matches(" {4}(}|private .*class .*)")) name = null;
     }
   }
 }
